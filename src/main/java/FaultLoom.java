@@ -39,6 +39,9 @@ public final class FaultLoom {
     private static final int STOPPED = 3;
 
     private static final int PLACES = 200;
+    // How many registers there are of words and of things; of longs, of singles and of doubles.
+    private static final int WORDS_OR_THINGS = 8;
+    private static final int LONGS_OR_BROKEN = 4;
     private static final int MOST_STEPS = 150;
     private static final int MOST_HANDLERS = 16;
     private static final int MOST_CALLS = 12;
@@ -225,11 +228,11 @@ public final class FaultLoom {
         switch (shape) {
             case A_WORD:
             case A_THING:
-                return number >= 0 && number < 8;
+                return number >= 0 && number < WORDS_OR_THINGS;
             case A_LONG:
             case A_SINGLE:
             case A_DOUBLE:
-                return number >= 0 && number < 4;
+                return number >= 0 && number < LONGS_OR_BROKEN;
             case A_PLACE:
                 return isPlace(number);
             case A_ROW_KIND:
@@ -251,9 +254,9 @@ public final class FaultLoom {
         return thing == null || !thing.isRow() ? -1 : thing.places;
     }
 
-    /** CAST if there is a thing of another kind; NOTHING passes, as MISSING comes later than CAST. */
-    private static int misfit(Thing thing, int wanted) {
-        return thing == null || thing.isOf(wanted) ? NO_FAILURE : CAST;
+    /** Whether there is a thing of another kind; NOTHING is none, as MISSING comes later than CAST. */
+    private static boolean misfits(Thing thing, int wanted) {
+        return thing != null && !thing.isOf(wanted);
     }
 
     private static final class Step {
@@ -346,20 +349,22 @@ public final class FaultLoom {
         final Thing[] things;
 
         Registers() {
-            words = new int[8];
-            longs = new long[4];
-            singles = new float[4];
-            doubles = new double[4];
-            things = new Thing[8];
+            words = new int[WORDS_OR_THINGS];
+            longs = new long[LONGS_OR_BROKEN];
+            singles = new float[LONGS_OR_BROKEN];
+            doubles = new double[LONGS_OR_BROKEN];
+            things = new Thing[WORDS_OR_THINGS];
         }
 
         void reset() {
-            for (int r = 0; r < words.length; r++) {
+            for (int r = 0; r < WORDS_OR_THINGS; r++) {
                 setWord(r, 0);
+                setThing(r, null);
+            }
+            for (int r = 0; r < LONGS_OR_BROKEN; r++) {
                 setLong(r, 0);
                 setSingle(r, 0);
                 setDouble(r, 0);
-                setThing(r, null);
             }
         }
 
@@ -751,7 +756,7 @@ public final class FaultLoom {
 
         private int makeFault(Step now) {
             Thing cause = registers.getThing(now.c);
-            if (misfit(cause, FAULT) != NO_FAILURE) {
+            if (misfits(cause, FAULT)) {
                 return CAST;
             }
             if (!hasRoom(1)) {
@@ -800,7 +805,7 @@ public final class FaultLoom {
         private int getFromRow(Step now, int wanted) {
             Thing row = registers.getThing(now.b);
             int i = registers.getWord(now.c);
-            if (misfit(row, wanted) != NO_FAILURE) {
+            if (misfits(row, wanted)) {
                 return CAST;
             }
             if (row == null) {
@@ -828,7 +833,7 @@ public final class FaultLoom {
             // In the other operations a is no Ta; NOTHING stands for it, as that fits everywhere.
             Thing member = wanted >= KNOTS ? registers.getThing(now.a) : null;
             int i = registers.getWord(now.c);
-            if (misfit(row, wanted) != NO_FAILURE || misfit(member, wanted == GRID ? WORDS : KNOT) != NO_FAILURE) {
+            if (misfits(row, wanted) || misfits(member, wanted == GRID ? WORDS : KNOT)) {
                 return CAST;
             }
             if (row == null) {
@@ -837,7 +842,7 @@ public final class FaultLoom {
             if (!row.hasPlace(i)) {
                 return INDEX;
             }
-            if (row.kind == RINGS && misfit(member, RING) != NO_FAILURE) {
+            if (row.kind == RINGS && misfits(member, RING)) {
                 return STORE;
             }
             if (wanted <= WORDS) {
@@ -871,10 +876,10 @@ public final class FaultLoom {
 
         private int useKnot(Step now) {
             Thing knot = registers.getThing(now.b);
-            if (misfit(knot, now.op == 66 ? OPS : KNOT) != NO_FAILURE) {
+            if (misfits(knot, now.op == 66 ? OPS : KNOT)) {
                 return CAST;
             }
-            if (now.op == 64 && misfit(registers.getThing(now.a), KNOT) != NO_FAILURE) {
+            if (now.op == 64 && misfits(registers.getThing(now.a), KNOT)) {
                 return CAST;
             }
             if (knot == null) {

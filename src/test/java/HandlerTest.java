@@ -14,6 +14,7 @@ public final class HandlerTest {
         calledAgain();
         whatWasHandled();
         stopGivesUpCalls();
+        onAtPlaceZero();
         DUE.end();
     }
 
@@ -144,9 +145,23 @@ public final class HandlerTest {
         DUE.is("72 of a THROW of NOTHING", x.word(3), 1);
         DUE.is("69 of a THROW of NOTHING", x.kind(3), -1);
         x.start();
+        x.step(4);
+        DUE.is("a fault was handled", x.state(8), 8);
+        x.start();
         x.step(2);
         DUE.is("72 in a new run", x.word(1), 0);
         DUE.is("69 in a new run", x.kind(1), -1);
+    }
+
+    /** Two CALLs deep, handled at the second: the first is not given up, though the place is 0. */
+    private static void onAtPlaceZero() {
+        FaultLoom x = Due.loom(Due.s(29, 1, 0, 0), Due.s(29, 2, 0, 0), Due.s(59, 0, 0, 0));
+        x.handler(1, 2, 1 << 1, 0);
+        x.start();
+        DUE.is("step(3)", x.step(3), 0);
+        DUE.is("place", x.state(2), 0);
+        DUE.is("calls", x.state(4), 1);
+        DUE.is("failure's place", x.state(9), 2);
     }
 
     private static void stopGivesUpCalls() {

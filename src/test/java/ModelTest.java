@@ -5,12 +5,12 @@ public final class ModelTest {
     private static final int[] SEEN_FAILURES = new int[24];
     private static final int[] SEEN_ENDS = new int[4];
 
-    private long seed;
+    private final Picks picks;
     /** The kind that each T has had at first, to choose steps that often can be done. */
     private final int[] kinds = new int[8];
 
     private ModelTest(long seed) {
-        this.seed = seed;
+        picks = new Picks(seed);
     }
 
     public static void main(String[] args) {
@@ -27,10 +27,7 @@ public final class ModelTest {
     }
 
     private int pick(int below) {
-        seed += 0x9E3779B97F4A7C15L;
-        long mixed = (seed ^ seed >>> 30) * 0xBF58476D1CE4E5B9L;
-        mixed = (mixed ^ mixed >>> 27) * 0x94D049BB133111EBL;
-        return (int) ((mixed >>> 33) % below);
+        return picks.below(below);
     }
 
     private int number() {

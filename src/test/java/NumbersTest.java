@@ -186,16 +186,20 @@ public final class NumbersTest {
     /** The greatest numbers by numbers near the least above 0, of which a few bits are left. */
     private static void farRests() {
         for (int halvings : new int[] {1, 1000, 1114, 1119, 1123, 1124}) {
-            double e = 1234567891234567L;
-            for (int i = 0; i < halvings; i++) {
-                e = e / 2;
-            }
-            farRest(halvings, (double) (Long.MIN_VALUE + 12345), e);
+            farRest(Long.MIN_VALUE + 12345, 1234567891234567L, halvings);
         }
+        farRest(Long.MIN_VALUE, 1, 1074);
+        farRest(Long.MAX_VALUE, -1, 1074);
+        farRest(Long.MAX_VALUE, 5, 1074);
     }
 
-    private static void farRest(int halvings, double d, double e) {
-        FaultLoom x = Due.loom(Due.wide(1, Long.MIN_VALUE + 12345), Due.wide(2, 1234567891234567L), Due.s(16, 1, 1, 0),
+    private static void farRest(long b, long c, int halvings) {
+        double d = b;
+        double e = c;
+        for (int i = 0; i < halvings; i++) {
+            e = e / 2;
+        }
+        FaultLoom x = Due.loom(Due.wide(1, b), Due.wide(2, c), Due.s(16, 1, 1, 0),
             Due.s(16, 2, 2, 0), Due.s(1, 0, halvings, 0), Due.s(1, 1, 1, 0), Due.s(22, 2, 2, 0), Due.s(5, 0, 0, 1),
             Due.s(28, 0, 10, 0), Due.s(27, 6, 0, 0), Due.s(24, 0, 1, 2), Due.s(24, 3, 2, 1));
         x.start();

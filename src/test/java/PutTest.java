@@ -1,7 +1,5 @@
 /** Promise 2: put. */
 public final class PutTest {
-    private static final int FREE = 0;
-
     /**
      * What each operation names, from the document: W, L, F, D, T registers, P a place, R a row's kind,
      * N a new thing's kind, K any kind, - what is not looked at.
@@ -77,7 +75,7 @@ public final class PutTest {
         int[] v = new int[3];
         for (int k = 0; k < 3; k++) {
             char name = NAMES[op].charAt(k);
-            v[k] = name == '-' ? FREE : low(name);
+            v[k] = low(name);
         }
         v[i] = value;
         FaultLoom x = new FaultLoom();

@@ -40,6 +40,7 @@ public final class RunTest {
         DUE.is("ended", x.state(10), 2);
         DUE.is("step(0)", x.step(0), 1);
         DUE.is("step(101)", x.step(101), -2);
+        DUE.is("start() with one step", Due.loom(Due.s(0, 0, 0, 0)).start(), true);
         x = Due.ran(Due.s(1, 7, 5, 0), Due.wide(3, 6), Due.s(15, 3, 3, 0), Due.s(16, 3, 3, 0), Due.s(33, 7, 11, 7),
             Due.s(73, 7, 0, 0), Due.s(29, 7, 0, 0), Due.s(7, 0, 0, 0));
         DUE.is("stopped", x.state(10), 3);
