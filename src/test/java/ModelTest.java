@@ -163,46 +163,6 @@ public final class ModelTest {
                 SEEN_ENDS[m.status]++;
             }
         }
-        sameStates(program, x, m);
-        sameNumbers(program, x, m);
-        sameThings(program, x, m);
-    }
-
-    private static void sameStates(int program, FaultLoom x, LoomModel m) {
-        for (int what = 0; what <= 10; what++) {
-            DUE.is("program " + program + " state(" + what + ")", x.state(what), m.state(what));
-        }
-        for (int i = 0; i < m.told.size() && i < 20; i++) {
-            DUE.is("program " + program + " told(" + i + ")", x.told(i), m.told.get(i));
-        }
-    }
-
-    private static void sameNumbers(int program, FaultLoom x, LoomModel m) {
-        for (int r = 0; r < 8; r++) {
-            DUE.is("program " + program + " word(" + r + ")", x.word(r), m.w[r]);
-        }
-        for (int r = 0; r < 4; r++) {
-            DUE.is("program " + program + " wide(" + r + ")", x.wide(r), m.l[r]);
-            DUE.real("program " + program + " single(" + r + ")", x.single(r), m.f[r]);
-            DUE.real("program " + program + " real(" + r + ")", x.real(r), m.d[r]);
-        }
-    }
-
-    private static void sameThings(int program, FaultLoom x, LoomModel m) {
-        for (int r = 0; r < 8; r++) {
-            String of = "program " + program + " T" + r + ": ";
-            DUE.is(of + "kind", x.kind(r), LoomModel.kind(m.t[r]));
-            DUE.is(of + "size", x.size(r), m.size(r));
-            for (int i = -1; i <= m.size(r); i++) {
-                DUE.is(of + "cell(" + i + ")", x.cell(r, i), m.cell(r, i));
-                DUE.real(of + "point(" + i + ")", x.point(r, i), m.point(r, i));
-            }
-            for (int what = 0; what < 3; what++) {
-                DUE.is(of + "field(" + what + ")", x.field(r, what), m.field(r, what));
-            }
-            for (int q = r; q < 8; q++) {
-                DUE.is(of + "same(" + q + ")", x.same(r, q), m.t[r] != null && m.t[r] == m.t[q]);
-            }
-        }
+        Alike.all(DUE, "program " + program, x, m);
     }
 }

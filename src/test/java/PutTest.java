@@ -1,24 +1,10 @@
 /** Promise 2: put. */
 public final class PutTest {
-    /**
-     * What each operation names, from the document: W, L, F, D, T registers, P a place, R a row's kind,
-     * N a new thing's kind, K any kind, - what is not looked at.
-     */
-    private static final String[] NAMES = {
-        "---", "W--", "L--", "WW-", "WWW", "WWW", "WWW", "WWW", "WWW", "LLL", "LLL", "LLL", "LLL",
-        "LW-", "WL-", "FL-", "DL-", "LF-", "WD-", "DF-", "FD-", "FF-", "DD-", "FFF", "DDD", "WWW", "WDD",
-        "P--", "WP-", "P--", "---", "TRW", "TWW", "TNW", "TT-", "T--", "WTT", "WTK", "WT-",
-        "WTW", "WTW", "WTW", "WTW", "WTW", "LTW", "FTW", "DTW", "TTW", "TTW",
-        "WTW", "WTW", "WTW", "WTW", "WTW", "LTW", "FTW", "DTW", "TTW", "TTW",
-        "WT-", "WT-", "LT-", "LT-", "TT-", "TT-", "WTW", "WTW",
-        "TWT", "T--", "T--", "WT-", "TT-", "W--", "W--"
-    };
-
     private static final Due DUE = new Due();
 
     public static void main(String[] args) {
-        DUE.is("operations", NAMES.length, 74);
-        for (int op = 0; op < NAMES.length; op++) {
+        DUE.is("operations", Operands.NAMES.length, 74);
+        for (int op = 0; op < Operands.NAMES.length; op++) {
             for (int i = 0; i < 3; i++) {
                 operandEdges(op, i);
             }
@@ -33,40 +19,18 @@ public final class PutTest {
         DUE.end();
     }
 
-    private static int low(char name) {
-        return name == 'N' ? 11 : 0;
-    }
-
-    private static int high(char name) {
-        switch (name) {
-            case 'W':
-            case 'T':
-                return 7;
-            case 'P':
-                return 199;
-            case 'R':
-                return 9;
-            case 'N':
-                return 14;
-            case 'K':
-                return 16;
-            default:
-                return 3;
-        }
-    }
-
     private static void operandEdges(int op, int i) {
-        char name = NAMES[op].charAt(i);
+        char name = Operands.NAMES[op].charAt(i);
         if (name == '-') {
             tryOperand(op, i, Integer.MIN_VALUE, true);
             tryOperand(op, i, -1, true);
             tryOperand(op, i, Integer.MAX_VALUE, true);
             return;
         }
-        tryOperand(op, i, low(name), true);
-        tryOperand(op, i, high(name), true);
-        tryOperand(op, i, low(name) - 1, false);
-        tryOperand(op, i, high(name) + 1, false);
+        tryOperand(op, i, Operands.low(name), true);
+        tryOperand(op, i, Operands.high(name), true);
+        tryOperand(op, i, Operands.low(name) - 1, false);
+        tryOperand(op, i, Operands.high(name) + 1, false);
         tryOperand(op, i, Integer.MIN_VALUE, false);
         tryOperand(op, i, Integer.MAX_VALUE, false);
     }
@@ -74,8 +38,8 @@ public final class PutTest {
     private static void tryOperand(int op, int i, int value, boolean fits) {
         int[] v = new int[3];
         for (int k = 0; k < 3; k++) {
-            char name = NAMES[op].charAt(k);
-            v[k] = low(name);
+            char name = Operands.NAMES[op].charAt(k);
+            v[k] = Operands.low(name);
         }
         v[i] = value;
         FaultLoom x = new FaultLoom();
